@@ -143,10 +143,10 @@ public final class HailLeague {
     public int advise(int cannon, int hours) throws IndexOutOfBoundsException, IllegalArgumentException {
         requireIndex(cannon, now.cannons.count);
         requireArgument(hours >= 1 && hours <= MOST_ADVISE_HOURS);
-        int fewest = lossesWith(cannon, now.cannons.place[cannon], hours);
+        int fewest = lostWith(cannon, now.cannons.place[cannon], hours);
         int best = -1;
         for (int place = 0; place < PLACES; place++) {
-            int lost = lossesWith(cannon, place, hours);
+            int lost = lostWith(cannon, place, hours);
             if (lost < fewest) {
                 fewest = lost;
                 best = place;
@@ -214,15 +214,15 @@ public final class HailLeague {
         return d;
     }
 
-    private int lossesWith(int cannon, int place, int hours) {
+    /** Answers the vines lost in all, those lost before now too, with the cannon at the place. */
+    private int lostWith(int cannon, int place, int hours) {
         trial.copyFrom(now);
         trial.cannons.place[cannon] = place;
-        int before = trial.vineyards.sumOfLostInAll();
         // Only hail costs vines, so hours without any need not be tried.
         for (int i = 0; i < hours && trial.clouds.haveHail(); i++) {
             trial.goByOneHour();
         }
-        return trial.vineyards.sumOfLostInAll() - before;
+        return trial.vineyards.sumOfLostInAll();
     }
 
     private static boolean isPlace(int place) {

@@ -10,6 +10,7 @@ public final class ForesightTest {
         foreseeWrong();
         advise();
         adviseTies();
+        adviseInTheValley();
         adviseByHours();
         adviseWrong();
         foresightChangesNothing();
@@ -152,6 +153,26 @@ public final class ForesightTest {
         y.cannon(0, 1, 60);
         y.gather(29, 0, 5);
         Check.due("15: the place 29", 29, y.advise(0, 1));
+    }
+
+    /** Only beyond the valley would a cannon not waste its powder on the first cloud. */
+    private static void adviseInTheValley() {
+        HailLeague x = new HailLeague();
+        x.plant(29, 99, true, false);
+        x.cannon(0, 1, 1);
+        x.gather(28, 0, 60);
+        x.gather(27, 1, 8);
+        Check.due("15: no place above 29", -1, x.advise(0, 2));
+        HailLeague y = new HailLeague();
+        y.plant(0, 99, true, false);
+        y.cannon(29, 1, 1);
+        y.gather(1, 0, 60);
+        y.gather(2, -1, 8);
+        Check.due("15: no place below 0", -1, y.advise(0, 2));
+        y.plant(15, 6, true, false);
+        y.gather(15, 0, 4);
+        // At 15 as much is saved as would be at -1.
+        Check.due("15: nor is one counted as better", 15, y.advise(0, 2));
     }
 
     private static void adviseByHours() {

@@ -9,6 +9,7 @@ public final class ModelTest {
     private static final int ILLEGAL = -1000001;
     private static final int STATE = -1000002;
     private static final int BOUNDS = -1000003;
+    private static final int MACHINE = -1000004;
 
     private static long seed;
 
@@ -70,7 +71,8 @@ public final class ModelTest {
         } catch (IllegalStateException e) {
             return STATE;
         } catch (IndexOutOfBoundsException e) {
-            return BOUNDS;
+            // Its subclasses are the machine's own, and must not come out.
+            return e.getClass() == IndexOutOfBoundsException.class ? BOUNDS : MACHINE;
         }
     }
 
