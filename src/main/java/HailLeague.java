@@ -428,11 +428,14 @@ public final class HailLeague {
         void copyFrom(Vineyards other) {
             System.arraycopy(other.place, 0, place, 0, MOST_VINEYARDS);
             System.arraycopy(other.vines, 0, vines, 0, MOST_VINEYARDS);
-            System.arraycopy(other.member, 0, member, 0, MOST_VINEYARDS);
-            System.arraycopy(other.insured, 0, insured, 0, MOST_VINEYARDS);
             System.arraycopy(other.lostToday, 0, lostToday, 0, MOST_VINEYARDS);
             System.arraycopy(other.suits, 0, suits, 0, MOST_VINEYARDS);
             System.arraycopy(other.lostInAll, 0, lostInAll, 0, MOST_VINEYARDS);
+            // LANGUAGE.md (rule 4) can be read so that arraycopy is for numbers alone.
+            for (int i = 0; i < MOST_VINEYARDS; i++) {
+                member[i] = other.member[i];
+                insured[i] = other.insured[i];
+            }
             count = other.count;
         }
     }
@@ -590,7 +593,9 @@ public final class HailLeague {
             System.arraycopy(other.place, 0, place, 0, MOST_CLOUDS);
             System.arraycopy(other.drift, 0, drift, 0, MOST_CLOUDS);
             System.arraycopy(other.hail, 0, hail, 0, MOST_CLOUDS);
-            System.arraycopy(other.gone, 0, gone, 0, MOST_CLOUDS);
+            for (int i = 0; i < MOST_CLOUDS; i++) {
+                gone[i] = other.gone[i];
+            }
             count = other.count;
         }
     }

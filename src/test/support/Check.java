@@ -2,8 +2,33 @@
 public final class Check {
     private static int checks = 0;
     private static int wrong = 0;
+    private static String sentence = "";
 
     private Check() {
+    }
+
+    /**
+     * Runs the test of one sentence (or a part of one) of the document, and names it in all that is printed.
+     *
+     * @param part the heading under which it stands, such as "Promise 2"
+     */
+    public static void sentence(String part, String words, Runnable test) {
+        sentence = part + ", \"" + words + "\": ";
+        int checksBefore = checks;
+        int wrongBefore = wrong;
+        if (!Document.says(part, words)) {
+            report("the document has no such words there");
+        }
+        try {
+            test.run();
+        } catch (RuntimeException e) {
+            report("the test was ended by " + e);
+        }
+        if (checks == checksBefore) {
+            report("nothing was checked");
+        }
+        System.out.println((wrong == wrongBefore ? "  holds: " : "  BROKEN: ") + part + ", \"" + words + "\"");
+        sentence = "";
     }
 
     public static void due(String call, long want, long got) {
@@ -55,7 +80,7 @@ public final class Check {
     private static void report(String text) {
         wrong++;
         if (wrong <= 50) {
-            System.out.println("WRONG: " + text);
+            System.out.println("WRONG: " + sentence + text);
         }
     }
 
