@@ -12,9 +12,14 @@ final class Document {
     private Document() {
     }
 
-    /** Whether the words stand below the heading, which may be named up to its colon. */
+    /** Whether the words stand below the heading, which may be named up to its colon or from it on. */
     static boolean says(String heading, String words) {
-        return PARTS.getOrDefault(heading, "").contains(words);
+        return part(heading).contains(words);
+    }
+
+    /** What stands below the heading, with a single space for white space; nothing if there is none. */
+    static String part(String heading) {
+        return PARTS.getOrDefault(heading, "");
     }
 
     private static Map<String, String> read() {
@@ -22,7 +27,9 @@ final class Document {
         for (String part : text().split("(?m)^## ")) {
             String[] headingAndWords = part.split("\n", 2);
             String words = headingAndWords.length == 2 ? headingAndWords[1] : "";
-            parts.put(headingAndWords[0].split(":")[0], words.replaceAll("\\s+", " "));
+            for (String heading : headingAndWords[0].split(": ")) {
+                parts.put(heading, words.replaceAll("\\s+", " "));
+            }
         }
         return parts;
     }
